@@ -16,6 +16,7 @@ public final class NightsTest {
         worths();
         onceInANight();
         nightAhead();
+        drawnNorth();
         goes();
         line();
         realm();
@@ -149,6 +150,31 @@ public final class NightsTest {
         walk("by the bowl", x, 0, 0, 3, 4, 5);
         walk("where it was", x, 1, 0, 3, 4, 5);
         walk("and again", x, 9, 0, 3, 4, 5);
+        HedgehogBorder y = Check.with("...;l..", "");
+        y.bowl(0, 1);
+        walk("where it was is less than leaves, by the bowl", y, 0, 0, 1, 2);
+        walk("where it was is less than leaves", y, 1, 0, 3, 4, 1, 2);
+        HedgehogBorder z = Check.with("...;...", "");
+        z.dog(1, 1);
+        walk("a dog where it was", z, 1, 0, 3, 4, 5);
+        z.bowl(1, 1);
+        walk("a bowl too: as much as an open cell", z, 1, 0, 1, 2);
+        z.set(1, 1);
+        walk("night 0 has none ahead", z, 0, 0, 1, 2);
+    }
+
+    private static void drawnNorth() {
+        HedgehogBorder x = Check.with("...;...", "");
+        x.set(0, 1);
+        walk("from row 1", x, 0, 3, 4, 5);
+        x.bowl(0, 0);
+        walk("to the first cell, by a bowl", x, 0, 3, 0, 1, 2);
+        HedgehogBorder y = Check.with("l..;...", "");
+        y.set(0, 1);
+        walk("to the first cell, by leaves", y, 0, 3, 0, 1, 2);
+        HedgehogBorder z = Check.with("w..;...", "");
+        z.set(0, 1);
+        walk("to the first cell, by worms", z, 0, 3, 0, 1, 2);
     }
 
     private static void goes() {
@@ -224,6 +250,12 @@ public final class NightsTest {
         x.back(1);
         x.back(1);
         due("it stays where it was", x.changes(0), 1);
+        HedgehogBorder y = Check.with("..;..;..", "011");
+        y.bowl(1, 2);
+        due("behind night 1", y.changes(0), 1);
+        HedgehogBorder z = Check.with("..;..;..", "031");
+        due("behind night 0 nothing changes", z.changes(0), 0);
+        due("though it was common at first", z.lies(0, 0), 1);
     }
 
     private static void taxes() {

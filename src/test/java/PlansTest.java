@@ -60,6 +60,11 @@ public final class PlansTest {
         due("and it walks as it did", x.line(5, 1), 0);
         x.bowl(5, 2);
         due("as planned", x.lies(5, 0), 0);
+        HedgehogBorder y = Check.with("..;..", "031");
+        y.set(0, 1);
+        plan("on the first cell", y, question(0, 0, 1), 1, 0, -1);
+        y.dog(0, 0);
+        plan("two on the first cell", y, question(0, 0, 1), 2, 0, 0);
     }
 
     private static void twoBowls() {

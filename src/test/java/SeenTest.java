@@ -1,3 +1,6 @@
+import java.util.Arrays;
+import java.util.function.Predicate;
+
 /** Promises 24 to 30: what was seen, guesses by it, cats, roaming. */
 public final class SeenTest {
     private static final Check CHECK = new Check("SeenTest");
@@ -81,6 +84,14 @@ public final class SeenTest {
         x.forget();
         x.seen(9, 2, 1);
         due("no such house", x.began(), 0);
+        x.forget();
+        x.seen(9, 2, 2);
+        Check.typed(x, 1, ";001");
+        due("the house that came", x.began(), 1);
+        for (int i = 0; i < 4; i++) {
+            x.undo(1);
+        }
+        due("the house that went", x.began(), 0);
         due("START stays", x.set(0, 0), 0);
         due("it walks as it did", x.at(0, 0), 0);
     }
@@ -94,8 +105,18 @@ public final class SeenTest {
         x.seen(0, 2, 2);
         due("by starts left they are alike", x.ask(0), 0);
         x.forget();
+        x.seen(0, 0, 0);
+        due("no start is left: the least house", x.ask(0), 0);
         HedgehogBorder y = Check.with("..;..;..", "");
         due("no houses", y.ask(0), -1);
+        HedgehogBorder u = Check.with("..;..;..", "391;051");
+        u.seen(0, 1, 1);
+        // All but START 2 are left: 391 is nowhere by five, 051 is in realm 1 by five.
+        due("as many", u.ask(0), 0);
+        u.forget();
+        due("START 2 parts 051", u.ask(0), 1);
+        HedgehogBorder t = Check.with("..;..;..", "391;011");
+        due("START 0 parts 011", t.ask(0), 1);
         HedgehogBorder z = Check.with("..;..;..", "011;011");
         due("of like ones the least", z.ask(9), 0);
     }
@@ -157,6 +178,26 @@ public final class SeenTest {
         due("no land", new HedgehogBorder().roam(0, 3, 1), 0);
     }
 
+    /** Where sixty steps by lots lead on open land of six by six. */
+    private static int sixty(int seed) {
+        int lot = seed;
+        int row = 0;
+        int column = 0;
+        int[][] ways = {{0, 1}, {1, 0}, {-1, 0}, {0, -1}};
+        for (int i = 0; i < 60; i++) {
+            int[][] open = Arrays.stream(ways).filter(inside(row, column)).toArray(int[][]::new);
+            lot = lot * 1103515245 + 12345;
+            int[] way = open[(lot >> 16 & 0xFFFF) % open.length];
+            row += way[0];
+            column += way[1];
+        }
+        return 6 * row + column;
+    }
+
+    private static Predicate<int[]> inside(int row, int column) {
+        return way -> row + way[0] >= 0 && row + way[0] < 6 && column + way[1] >= 0 && column + way[1] < 6;
+    }
+
     private static void roam() {
         HedgehogBorder x = Check.with("..;..", "");
         due("no steps", x.roam(5, 0, 0), 0);
@@ -178,6 +219,9 @@ public final class SeenTest {
         y.set(0, 1);
         due("from a wall", y.roam(0, 2, 0), -1);
         due("from a wall", y.roam(0, 2, 1), 0);
+        HedgehogBorder w = Check.with("......;......;......;......;......;......", "");
+        due("sixty steps", w.roam(3, 60, 0), sixty(3));
+        due("sixty steps of another seed", w.roam(Integer.MIN_VALUE, 60, 0), sixty(Integer.MIN_VALUE));
         HedgehogBorder z = Check.with(".#;#.", "");
         due("walled in", z.roam(3, 60, 0), 0);
         due("walled in", z.roam(3, 60, 1), 1);

@@ -155,6 +155,9 @@ public final class SheetsTest {
         due("back 1", x.get(0, 2, 1), 3);
         due("back 2", x.get(0, 2, 2), 4);
         due("back 3", x.get(0, 2, 3), 3);
+        x.sheet(2, 2, 5);
+        due("all of it", x.copy(0, 0, 2, 0, 5), 1);
+        due("its last", x.get(2, 2, 4), 4);
     }
 
     private static void write() {
@@ -180,6 +183,8 @@ public final class SheetsTest {
         due("NONE", x.get(2, 1, 2), -1);
         x.write(0, 0);
         due("NONE as a byte", x.get(0, 0, 0), -1);
+        x.sheet(3, 0, 1);
+        due("the last sheet", x.write(0, 3), 1);
     }
 
     private static void count() {
@@ -226,6 +231,17 @@ public final class SheetsTest {
         x.set(1, 6);
         due("digest from row 2", x.digest(), parts(x));
         due("digest again", x.digest(), parts(x));
+        x.type(0, ';');
+        due("digest with a fault", x.digest(), parts(x));
+        HedgehogBorder y = Check.with("......;......;......;.....w", "005;073;147;211;174;230");
+        y.bowl(1, 6);
+        y.bowl(2, 12);
+        y.bowl(5, 6);
+        y.bowl(5, 12);
+        y.dog(9, 1);
+        due("digest of many changes", y.digest(), parts(y));
+        y.set(0, 3);
+        due("digest from row 3", y.digest(), parts(y));
     }
 
     private static long parts(HedgehogBorder x) {

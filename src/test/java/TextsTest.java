@@ -75,6 +75,11 @@ public final class TextsTest {
         due("houses stay", x.count(1), 1);
         due("wipe(1)", x.wipe(1), 3);
         due("no houses", x.count(1), 0);
+        due("nothing to walk on", x.at(0, 0), -1);
+        due("typed anew", x.type(0, '.'), 1);
+        due("it walks there", x.at(0, 0), 0);
+        due("undone", x.undo(0), 0);
+        due("nothing to walk on", x.at(0, 0), -1);
         due("typed anew", x.type(0, '#'), 1);
         due("a wall", x.cell(0), 1);
     }
@@ -101,6 +106,8 @@ public final class TextsTest {
             due("cells of " + land, x.count(0), 0);
             due("columns of " + land, x.count(6), 0);
             due("cell(0) of " + land, x.cell(0), -1);
+            due("it does not walk on " + land, x.at(0, 0), -1);
+            due("nor roam on " + land, x.roam(0, 0, 0), -1);
         }
     }
 
@@ -285,5 +292,6 @@ public final class TextsTest {
         due("eight", x.count(4), 8);
         due("none more", x.read(0), 0);
         due("the finding stays", x.count(8), 1);
+        due("the last sheet", x.sheet(3, 0, 0) + x.read(3), 0);
     }
 }
