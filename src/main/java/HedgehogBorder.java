@@ -388,7 +388,8 @@ public final class HedgehogBorder {
         trial.becomeLike(walks);
         for (int i = 0; i < bowls.number; i++) {
             trial.present = ~(1 << i);
-            if (comesOutSo()) {
+            trial.walkNights(NIGHTS - 1);
+            if (agreesWithSights()) {
                 bits |= 1 << i;
             }
         }
@@ -400,7 +401,8 @@ public final class HedgehogBorder {
         trial.becomeLike(walks);
         for (int start = 0; start < SIDE; start++) {
             trial.start = start;
-            if (comesOutSo()) {
+            trial.walkNights(NIGHTS - 1);
+            if (agreesWithSights()) {
                 bits |= 1 << start;
             }
         }
@@ -411,7 +413,7 @@ public final class HedgehogBorder {
         if (!isNight(night)) {
             return BAD;
         }
-        tallyStarts(night, began());
+        tallyStarts(night);
         int best = NONE;
         int least = NONE;
         for (int h = 0; h < houses.number; h++) {
@@ -456,9 +458,8 @@ public final class HedgehogBorder {
         return what == 0 ? here : Long.bitCount(been);
     }
 
-    /** Walks the trial anew and tells whether it agrees with all that was seen. */
-    private boolean comesOutSo() {
-        trial.walkNights(NIGHTS - 1);
+    /** Whether all that was seen comes out so by the trial's latest walks. */
+    private boolean agreesWithSights() {
         for (int i = 0; i < sights.number; i++) {
             int h = sights.things[i];
             if (h >= houses.number || trial.realmOf(sights.nights[i], houses.places[h]) != sights.realms[i]) {
@@ -468,13 +469,13 @@ public final class HedgehogBorder {
         return true;
     }
 
-    private void tallyStarts(int night, int starts) {
+    private void tallyStarts(int night) {
         Arrays.fill(tally, 0);
         trial.becomeLike(walks);
         for (int start = 0; start < SIDE; start++) {
-            if ((starts >> start & 1) == 1) {
-                trial.start = start;
-                trial.walkNights(night);
+            trial.start = start;
+            trial.walkNights(NIGHTS - 1);
+            if (agreesWithSights()) {
                 for (int h = 0; h < houses.number; h++) {
                     int r = trial.realmOf(night, houses.places[h]);
                     tally[h * (REALMS + 1) + (r == NONE ? REALMS : r)]++;
@@ -708,6 +709,8 @@ public final class HedgehogBorder {
     /** What the land's text tells; with a flaw there is no land. */
     private static final class Land {
         private final int[] kinds = new int[CELLS];
+        private final int[] rowAt = new int[CELLS];
+        private final int[] columnAt = new int[CELLS];
         private final int[] ways = new int[CELLS];
         private final int[] beside = new int[CELLS * WAYS];
         private int flaw = NONE;
@@ -748,6 +751,8 @@ public final class HedgehogBorder {
                         return i;
                     }
                     kinds[cells] = kind;
+                    rowAt[cells] = rows;
+                    columnAt[cells] = inRow;
                     cells++;
                     inRow++;
                 }
@@ -765,9 +770,8 @@ public final class HedgehogBorder {
         }
 
         private void findWays(int c) {
-            int column = columnOf(c);
             ways[c] = 0;
-            if (column + 1 < columns) {
+            if (columnAt[c] + 1 < columns) {
                 openWay(c, c + 1);
             }
             if (c + columns < cells) {
@@ -776,7 +780,7 @@ public final class HedgehogBorder {
             if (c >= columns) {
                 openWay(c, c - columns);
             }
-            if (column > 0) {
+            if (columnAt[c] > 0) {
                 openWay(c, c - 1);
             }
         }
@@ -786,14 +790,6 @@ public final class HedgehogBorder {
                 beside[c * WAYS + ways[c]] = next;
                 ways[c]++;
             }
-        }
-
-        private int columnOf(int c) {
-            return columns > 0 ? c % columns : 0;
-        }
-
-        private int rowOf(int c) {
-            return columns > 0 ? c / columns : 0;
         }
 
         private static int kindOf(int b) {
@@ -957,28 +953,23 @@ public final class HedgehogBorder {
             inheritLine(night);
             int here = night < frost ? firstCell() : NONE;
             int from = NONE;
-            int steps = 0;
-            trodden[night] = 0;
-            arrive(night, steps, here);
-            while (here != NONE && steps < STEPS && land.columnOf(here) < land.columns - 1) {
-                int next = choose(here, from, trodden[night]);
+            long been = 0;
+            for (int steps = 0; steps <= STEPS; steps++) {
+                track[night * TRACK + steps] = here;
+                gone[night] = steps;
+                if (here == NONE) {
+                    break;
+                }
+                been |= 1L << here;
+                lines[night * SIDE + land.columnAt[here]] = land.rowAt[here];
+                int next = land.columnAt[here] < land.columns - 1 ? choose(here, from, been) : NONE;
                 if (next == NONE) {
                     break;
                 }
                 from = here;
                 here = next;
-                steps++;
-                arrive(night, steps, here);
             }
-            gone[night] = steps;
-        }
-
-        private void arrive(int night, int steps, int here) {
-            track[night * TRACK + steps] = here;
-            if (here != NONE) {
-                trodden[night] |= 1L << here;
-                lines[night * SIDE + land.columnOf(here)] = land.rowOf(here);
-            }
+            trodden[night] = been;
         }
 
         private void inheritLine(int night) {
@@ -1019,8 +1010,8 @@ public final class HedgehogBorder {
             if (place >= land.cells) {
                 return NONE;
             }
-            int row = land.rowOf(place);
-            int border = lines[night * SIDE + land.columnOf(place)];
+            int row = land.rowAt[place];
+            int border = lines[night * SIDE + land.columnAt[place]];
             if (row == border) {
                 return COMMON;
             }

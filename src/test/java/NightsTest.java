@@ -211,6 +211,11 @@ public final class NightsTest {
         due("above", x.realm(0, 1), 0);
         due("on it", x.realm(0, 2), 2);
         due("below", x.realm(9, 5), 1);
+        HedgehogBorder y = Check.with(".;.;.", "");
+        y.set(0, 1);
+        due("one column: above", y.realm(0, 0), 0);
+        due("one column: on it", y.realm(0, 1), 2);
+        due("one column: below", y.realm(0, 2), 1);
     }
 
     private static void lies() {

@@ -166,6 +166,8 @@ public final class SeenTest {
         }
         // South only if both bowls of 2 are there and none of the six of 1: 1 by 256, 15 by 16 six times.
         chance("eight bowls", y, new int[] {1, 0, 0, 0}, 11390625L, 4294967296L);
+        chance("eight bowls, it cannot be", y, new int[] {8, 0, 0, 1}, 0, 1);
+        chance("eight bowls, it is always", y, new int[] {16, 0, 0, 2}, 1, 1);
     }
 
     private static void roamRefusals() {
