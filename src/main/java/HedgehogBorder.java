@@ -38,7 +38,7 @@ public final class HedgehogBorder {
     private final Walker walks;
     private final Walker trial;
     private final Laid laid;
-    private final Fraction chance;
+    private final Chances chances;
     private final int[] tally;
     private final Sheet[] sheets;
     private boolean stale;
@@ -56,7 +56,7 @@ public final class HedgehogBorder {
         walks = new Walker(land, bowls, dogs);
         trial = new Walker(land, bowls, dogs);
         laid = new Laid();
-        chance = new Fraction();
+        chances = new Chances();
         tally = new int[MOST * (REALMS + 1)];
         sheets = new Sheet[SHEETS];
         for (int s = 0; s < SHEETS; s++) {
@@ -433,8 +433,9 @@ public final class HedgehogBorder {
         if (!isUpTo(c, CHANCES) || !isQuestion(night, house, realm) || !isUpTo(what, 1)) {
             return LEAST_LONG - BAD;
         }
-        weighChance(c, night, house, realm);
-        return what == 0 ? chance.above : chance.below;
+        weighChances(c, night, realm);
+        chances.reduce(house);
+        return what == 0 ? chances.above : chances.below;
     }
 
     public int roam(int seed, int n, int what) {
@@ -484,22 +485,32 @@ public final class HedgehogBorder {
         }
     }
 
-    private void weighChance(int c, int night, int house, int realm) {
+    /** For all houses at once: what is dear is the walks, and they are the same for each. */
+    private void weighChances(int c, int night, int realm) {
         int matter = bowlsThatMatter(night);
         int many = Integer.bitCount(matter);
-        long above = 0;
+        Arrays.fill(chances.shares, 0);
+        chances.whole = power(CHANCES, many);
         trial.becomeLike(walks);
         for (int some = 0; some < 1 << MOST; some++) {
+            int there = Integer.bitCount(some);
             if ((some & ~matter) == 0) {
-                int there = Integer.bitCount(some);
-                long weight = power(c, there) * power(CHANCES - c, many - there);
                 trial.present = some;
-                if (weight > 0 && trial.leadsTo(night, houses.places[house], realm)) {
-                    above += weight;
-                }
+                shareOut(power(c, there) * power(CHANCES - c, many - there), night, realm);
             }
         }
-        chance.become(above, power(CHANCES, many));
+    }
+
+    private void shareOut(long weight, int night, int realm) {
+        if (weight == 0) {
+            return;
+        }
+        trial.walkNights(night);
+        for (int h = 0; h < houses.number; h++) {
+            if (trial.realmOf(night, houses.places[h]) == realm) {
+                chances.shares[h] += weight;
+            }
+        }
     }
 
     /** Bowls that cannot draw it up to a night would only double the work of a chance. */
@@ -620,6 +631,7 @@ public final class HedgehogBorder {
         for (int c = 0; c < land.cells; c++) {
             h = mix(mix(mix(h, cell(c)), realm(0, c)), realm(9, c));
         }
+        weighChances(5, 4, 0);
         for (int it = 0; it < houses.number; it++) {
             h = mixHouse(h, it);
         }
@@ -631,7 +643,7 @@ public final class HedgehogBorder {
         return mix(mix(h, roam(7, 20, 0)), roam(7, 20, 1));
     }
 
-    /** Plans and chances are worked out once for both of their parts: they are the dearest work. */
+    /** A plan is worked out once for both of its parts; the chances have been weighed ahead, for all houses. */
     private long mixHouse(long before, int it) {
         long h = mix(mix(before, house(it, 0)), house(it, 1));
         h = mix(mix(h, lies(0, it)), lies(9, it));
@@ -639,8 +651,8 @@ public final class HedgehogBorder {
         planBowls(3, it, 0);
         h = mix(mix(h, laid.told(NONE)), laid.told(0));
         h = mix(h, rake(3, it, 1));
-        weighChance(5, 4, it, 0);
-        return mix(mix(h, chance.above), chance.below);
+        chances.reduce(it);
+        return mix(mix(h, chances.above), chances.below);
     }
 
     private long mixNight(long before, int night) {
@@ -719,18 +731,20 @@ public final class HedgehogBorder {
         private int rows = 0;
 
         private void understand(Text text) {
-            cells = 0;
-            columns = 0;
-            rows = 0;
+            becomeEmpty();
             flaw = text.length == 0 ? NONE : gather(text);
             if (flaw != NONE) {
-                cells = 0;
-                columns = 0;
-                rows = 0;
+                becomeEmpty();
             }
             for (int c = 0; c < cells; c++) {
                 findWays(c);
             }
+        }
+
+        private void becomeEmpty() {
+            cells = 0;
+            columns = 0;
+            rows = 0;
         }
 
         /** Takes rows in up to the first byte that does not fit, and tells its place. */
@@ -907,11 +921,6 @@ public final class HedgehogBorder {
             }
         }
 
-        private boolean leadsTo(int night, int place, int realm) {
-            walkNights(night);
-            return realmOf(night, place) == realm;
-        }
-
         /** Walks the latest weighed night again, with one or two bowls more for this once. */
         private boolean isDrawnBy(int a, int b, int night, int place, int realm) {
             fresh[a] += BOWL_WORTH;
@@ -1046,14 +1055,16 @@ public final class HedgehogBorder {
         }
     }
 
-    /** The latest chance, in lowest terms. */
-    private static final class Fraction {
+    /** Each house's share of the whole, and that of one house in lowest terms. */
+    private static final class Chances {
+        private final long[] shares = new long[MOST];
+        private long whole = 1;
         private long above = 0;
         private long below = 1;
 
-        /** A chance is told in sixteenths of sixteenths, so halving is all that lowers it. */
-        private void become(long parts, long whole) {
-            above = parts;
+        /** The whole is a power of two, so halving is all that lowers a fraction of it. */
+        private void reduce(int house) {
+            above = shares[house];
             below = whole;
             for (int i = 0; i < FRACTION_BITS && below > 1 && above % 2 == 0; i++) {
                 above /= 2;
