@@ -36,25 +36,4 @@ final class Check {
             x.type(text, s.charAt(i));
         }
     }
-
-    /** All that calls can tell of an object without changing it, to show that a refused call changed nothing. */
-    static String look(HedgehogBorder x) {
-        StringBuilder all = new StringBuilder();
-        all.append(x.digest());
-        for (int s = 0; s < 4; s++) {
-            for (int i = 0; i < 60; i++) {
-                all.append(' ');
-                for (int form = 0; form < 3; form++) {
-                    all.append(',').append(peek(x, s, form, i));
-                }
-            }
-        }
-        return all.toString();
-    }
-
-    /** An item, told apart from a finding by the finding's number. */
-    private static String peek(HedgehogBorder x, int s, int form, int i) {
-        int got = x.get(s, form, i);
-        return got == Integer.MIN_VALUE ? "f" + x.count(8) : Integer.toString(got);
-    }
 }

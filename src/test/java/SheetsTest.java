@@ -226,65 +226,22 @@ public final class SheetsTest {
         x.dog(0, 2);
         x.dog(5, 12);
         x.seen(0, 1, 1);
-        due("digest", x.digest(), parts(x));
+        due("digest", x.digest(), Digest.parts(x));
         x.set(0, 2);
         x.set(1, 6);
-        due("digest from row 2", x.digest(), parts(x));
-        due("digest again", x.digest(), parts(x));
+        due("digest from row 2", x.digest(), Digest.parts(x));
+        due("digest again", x.digest(), Digest.parts(x));
         x.type(0, ';');
-        due("digest with a fault", x.digest(), parts(x));
+        due("digest with a fault", x.digest(), Digest.parts(x));
         HedgehogBorder y = Check.with("......;......;......;.....w", "005;073;147;211;174;230");
         y.bowl(1, 6);
         y.bowl(2, 12);
         y.bowl(5, 6);
         y.bowl(5, 12);
         y.dog(9, 1);
-        due("digest of many changes", y.digest(), parts(y));
+        due("digest of many changes", y.digest(), Digest.parts(y));
         y.set(0, 3);
-        due("digest from row 3", y.digest(), parts(y));
-    }
-
-    private static long parts(HedgehogBorder x) {
-        long h = 17;
-        for (int what = 0; what < 8; what++) {
-            h = 31 * h + x.count(what);
-        }
-        h = 31 * h + x.fault(0);
-        h = 31 * h + x.fault(1);
-        for (int c = 0; c < x.count(0); c++) {
-            h = 31 * h + x.cell(c);
-            h = 31 * h + x.realm(0, c);
-            h = 31 * h + x.realm(9, c);
-        }
-        for (int it = 0; it < x.count(1); it++) {
-            h = 31 * h + x.house(it, 0);
-            h = 31 * h + x.house(it, 1);
-            h = 31 * h + x.lies(0, it);
-            h = 31 * h + x.lies(9, it);
-            h = 31 * h + x.changes(it);
-            h = 31 * h + x.layOut(3, it, 0, -1);
-            h = 31 * h + x.layOut(3, it, 0, 0);
-            h = 31 * h + x.rake(3, it, 1);
-            h = 31 * h + x.cat(5, 4, it, 0, 0);
-            h = 31 * h + x.cat(5, 4, it, 0, 1);
-        }
-        for (int night : new int[] {0, 3, 9}) {
-            h = 31 * h + x.at(night, 3);
-            h = 31 * h + x.at(night, 24);
-            h = 31 * h + x.goes(night);
-            h = 31 * h + x.ask(night);
-            h = 31 * h + x.taxes(night, 0);
-            h = 31 * h + x.taxes(night, 1);
-            for (int column = 0; column < x.count(6); column++) {
-                h = 31 * h + x.line(night, column);
-            }
-        }
-        long[] rest = {x.first(0), x.first(1), x.live(0, 0), x.live(0, 1), x.live(1, 0), x.live(1, 1),
-            x.never(), x.began(), x.roam(7, 20, 0), x.roam(7, 20, 1)};
-        for (long part : rest) {
-            h = 31 * h + part;
-        }
-        return h;
+        due("digest from row 3", y.digest(), Digest.parts(y));
     }
 
     /** BAD and NOT leave even the latest finding; a finding leaves all but that. */
@@ -293,7 +250,7 @@ public final class SheetsTest {
         x.sheet(0, 0, 2);
         x.lay(0, 0, 1, 4);
         x.lose(3);
-        String before = Check.look(x);
+        String before = States.told(x);
         x.get(1, 0, 0);
         int finding = x.count(8);
         long refusals = x.type(0, 256) + x.undo(2) + x.set(0, 6) + x.bowl(0, 36) + x.dog(10, 0) + x.back(0)
@@ -303,6 +260,6 @@ public final class SheetsTest {
         due("the finding stays", x.count(8), finding);
         due("findings", x.sheet(0, 0, -1) + x.lay(0, 0, 2, 0) + x.lay(0, 1, 0, 0) + x.copy(0, 0, 0, 1, 2)
             + x.write(0, 1) + x.read(1), -15 - 12 - 13 - 12 - 11 - 11);
-        due("nothing is changed", Check.look(x).equals(before) ? 1 : 0, 1);
+        due("nothing is changed", States.told(x).equals(before) ? 1 : 0, 1);
     }
 }
