@@ -21,6 +21,7 @@ public final class SeenEdgesTest {
         nothingSeenComesOutSo();
         neverOfEachBowl();
         neverOfEachAlone();
+        neverOfTheLastNight();
         neverOfNoBowls();
         beganOfEachStart();
         beganBeyondTheRows();
@@ -164,6 +165,17 @@ public final class SeenEdgesTest {
         due("neither may", x.never(), 0);
         due("BOWLS stay", x.count(4), 2);
         due("it walks as it did", x.at(0, 1), 2);
+    }
+
+    private static void neverOfTheLastNight() {
+        for (int night = 0; night < 10; night++) {
+            HedgehogBorder x = Check.with("..;..", "011");
+            x.bowl(night, 2);
+            x.seen(night, 0, 2);
+            due("the BOWL of NIGHT " + night + " never was", x.never(), 1);
+            x.seen(night, 0, 0);
+            due("it was and was not", x.never(), 0);
+        }
     }
 
     private static void neverOfNoBowls() {

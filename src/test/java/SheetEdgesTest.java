@@ -34,6 +34,7 @@ public final class SheetEdgesTest {
         countWithAFault();
         digestOfEachState();
         digestAtEachStart();
+        digestOfLateChanges();
         digestWraps();
         CHECK.end();
     }
@@ -392,6 +393,28 @@ public final class SheetEdgesTest {
                 y.set(1, frost);
                 due("digest(), START " + start + ", FROST " + frost, x.digest(), Digest.parts(y));
             }
+        }
+    }
+
+    private static HedgehogBorder late(int night) {
+        HedgehogBorder x = Check.with(".#.;.#.;...", "071;011;061");
+        x.dog(night, 6);
+        x.bowl(night, 0);
+        return x;
+    }
+
+    private static void digestOfLateChanges() {
+        HedgehogBorder to = Check.with("..#.;####", "001");
+        due("to and fro, STEP 23", to.at(0, 23), 1);
+        due("to and fro, STEP 24", to.at(0, 24), 0);
+        due("to and fro: digest()", to.digest(), Digest.parts(to));
+        HedgehogBorder x = Check.with("..;..", "011;031");
+        x.bowl(9, 2);
+        due("NIGHT 8", x.lies(8, 0), 2);
+        due("NIGHT 9", x.lies(9, 0), 0);
+        due("otherwise in NIGHT 9: digest()", x.digest(), Digest.parts(x));
+        for (int night = 0; night < 10; night++) {
+            due("otherwise in NIGHT " + night + ": digest()", late(night).digest(), Digest.parts(late(night)));
         }
     }
 

@@ -66,8 +66,8 @@ final class States {
         x.lay(0, 2, 59, Integer.MAX_VALUE);
         x.sheet(1, 1, 2);
         x.sheet(2, 0, 1);
-        x.sheet(3, 2, 60);
-        x.lay(3, 2, 59, 8);
+        x.sheet(3, 2, 3);
+        x.lay(3, 2, 2, 8);
         return x;
     }
 
