@@ -34,6 +34,7 @@ public final class LanguageTest {
         }
         members(HedgehogBorder.class);
         CHECK.due("twelve classes at most", Math.max(11, HedgehogBorder.class.getDeclaredClasses().length), 11);
+        everyClassHasAName();
         text();
         CHECK.end();
     }
@@ -70,6 +71,8 @@ public final class LanguageTest {
             CHECK.due("hidden: " + field, isHidden(field) || isConstant ? 1 : 0, 1);
             boolean isSteady = !Modifier.isStatic(field.getModifiers()) || Modifier.isFinal(field.getModifiers());
             CHECK.due("static is final: " + field, isSteady ? 1 : 0, 1);
+            boolean isPlain = field.getType().isPrimitive() || !Modifier.isStatic(field.getModifiers());
+            CHECK.due("static is a number: " + field, isPlain ? 1 : 0, 1);
         }
         CHECK.due("twenty fields at most: " + of, Math.max(20, fields), 20);
         for (Method method : of.getDeclaredMethods()) {
@@ -80,14 +83,21 @@ public final class LanguageTest {
         }
     }
 
+    /** The compiler numbers classes that are local or have no name. */
+    private static void everyClassHasAName() {
+        CHECK.due("no local class and none without a name",
+            HedgehogBorder.class.getResource("HedgehogBorder$1.class") == null ? 1 : 0, 1);
+    }
+
     private static boolean isHidden(Member member) {
         return Modifier.isPrivate(member.getModifiers());
     }
 
     private static void text() throws IOException {
         String code = Files.readString(Path.of(SOURCE)).replaceAll("(?s)/\\*.*?\\*/", "").replaceAll("//[^\n]*", "");
-        for (String word : new String[] {"throw", "throws", "try", "catch", "finally", "synchronized", "assert", "package",
-            "Random", "Object", "Exact\\w*", "equals", "hashCode", "toString", "protected", "volatile", "native"}) {
+        for (String word : new String[] {"throw", "throws", "try", "catch", "finally", "synchronized", "assert",
+            "package", "Random", "Object", "Exact\\w*", "equals", "hashCode", "toString", "protected", "volatile",
+            "native"}) {
             Matcher matcher = Pattern.compile("\\b" + word + "\\b").matcher(code);
             CHECK.due("no " + word, matcher.find() ? 1 : 0, 0);
         }

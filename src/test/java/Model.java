@@ -2,7 +2,7 @@ import java.math.BigInteger;
 import java.util.ArrayList;
 import java.util.List;
 
-/** The document once more, as plainly as it can be said, slow and without any memory: random runs are held against it. */
+/** The document once more, as plainly as it can be said, slow and without memory: random runs are held against it. */
 final class Model {
     static final int NONE = -1;
     static final int BAD = -2;
@@ -81,7 +81,8 @@ final class Model {
         }
         for (int n = 1; n <= t.length(); n++) {
             String rest = "000;".substring(n % 4);
-            String whole = t.substring(0, n) + (n % 4 == 0 ? "000" : n % 4 == 3 ? "" : rest.substring(0, rest.length() - 1));
+            String missing = n % 4 == 0 ? "000" : n % 4 == 3 ? "" : rest.substring(0, rest.length() - 1);
+            String whole = t.substring(0, n) + missing;
             if (!whole.matches("([0-3][0-9][0-9];)*[0-3][0-9][0-9]")) {
                 return n - 1;
             }

@@ -317,7 +317,8 @@ public final class RefusalsTest {
     private static void findingsChangeCountEightAlone() throws ReflectiveOperationException {
         String[] found = {"read 3 = -11", "lose 3 = -11", "write 0 3 = -11", "lay 3 0 0 5 = -11",
             "copy 3 0 0 0 1 = -11", "copy 0 0 3 0 1 = -11", "lay 0 0 3 5 = -12", "lay 0 0 -1 5 = -12",
-            "lay 2 2 5 5 = -12", "copy 0 1 0 0 3 = -12", "copy 1 0 1 1 4 = -12", "copy 2 -1 2 0 2 = -12", "copy 2 0 2 -1 2 = -12", "copy 2 1 2 0 -1 = -12",
+            "lay 2 2 5 5 = -12", "copy 0 1 0 0 3 = -12", "copy 1 0 1 1 4 = -12", "copy 2 -1 2 0 2 = -12",
+            "copy 2 0 2 -1 2 = -12", "copy 2 1 2 0 -1 = -12",
             "lay 0 1 0 5 = -13", "lay 2 0 1 5 = -13", "copy 0 0 1 0 2 = -14", "copy 2 1 0 0 2 = -14",
             "sheet 0 0 -1 = -15", "sheet 2 1 -2147483648 = -15", "sheet 3 2 -1 = -15"};
         for (String line : found) {

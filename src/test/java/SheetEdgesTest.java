@@ -6,8 +6,8 @@ public final class SheetEdgesTest {
     private static final int LEAST = Integer.MIN_VALUE, GREATEST = Integer.MAX_VALUE;
     private static final int[] ENDS = {LEAST, LEAST + 1, GREATEST - 1, GREATEST};
     private static final int[] NUMBERS = {LEAST, LEAST + 1, -65537, -65536, -32769, -32768, -32767, -257, -256, -129,
-        -128, -127, -2, -1, 0, 1, 126, 127, 128, 129, 255, 256, 257, 32767, 32768, 65535, 65536, 0x12345678, GREATEST - 1,
-        GREATEST};
+        -128, -127, -2, -1, 0, 1, 126, 127, 128, 129, 255, 256, 257, 32767, 32768, 65535, 65536, 0x12345678,
+        GREATEST - 1, GREATEST};
 
     private SheetEdgesTest() {
     }
